@@ -978,11 +978,12 @@ public final class EstateSettlement {
         }
 
         boolean takes(int person) {
-            return !isDead(person) && !isRefusing(person);
+            return cell(DEAD, person, MAX_PERSONS) == 0 && cell(REFUSING, person, MAX_PERSONS) == 0;
         }
 
         boolean passesOn(int person) {
-            return isDead(person) || isRefusing(person) && accruesInLine();
+            return cell(DEAD, person, MAX_PERSONS) != 0
+                    || cell(REFUSING, person, MAX_PERSONS) != 0 && cells[IN_LINE] != 0;
         }
 
         boolean accruesInLine() {
@@ -1058,7 +1059,9 @@ public final class EstateSettlement {
         }
 
         private int cell(int first, int index, int count) {
-            return index >= 0 && index < count ? at(cells, first + index) : 0;
+            int place = first + index;
+            boolean known = index >= 0 && index < count && place >= 0 && place < cells.length;
+            return known ? cells[place] : 0;
         }
 
         private void putCell(int first, int index, int count, int number) {
@@ -1127,18 +1130,15 @@ public final class EstateSettlement {
             return value - portion(value, at(estate.charges, asset), 100);
         }
 
-        void settle(Estate estate, State state) {
+        void addUpAssets(Estate estate, State state) {
             netEstate = 0;
             for (int asset = 0; asset < estate.assetCount; asset++) {
                 netEstate += netValue(estate, state, asset);
             }
-            payDebts(state);
-            payLegacies(estate, state);
-            residue = netEstate - debtsPaid - legaciesPaid;
         }
 
         // To split the whole sum of some claims by these claims pays each of them in full.
-        private void payDebts(State state) {
+        void payDebts(State state) {
             for (int debt = 0; debt < MAX_ITEMS; debt++) {
                 debtPaid[debt] = 0;
             }
@@ -1164,13 +1164,14 @@ public final class EstateSettlement {
             }
         }
 
-        private void payLegacies(Estate estate, State state) {
+        void payLegacies(Estate estate, State state) {
             for (int legacy = 0; legacy < MAX_ITEMS; legacy++) {
                 boolean due = legacy < estate.legacyCount && state.takes(at(estate.legatees, legacy));
                 claims[legacy] = due ? at(estate.legacyAmounts, legacy) : 0;
             }
             legaciesPaid = Math.min(netEstate - debtsPaid, sumOf(claims));
             split(legaciesPaid, claims, legacyPaid);
+            residue = netEstate - debtsPaid - legaciesPaid;
         }
     }
 
@@ -1183,14 +1184,8 @@ public final class EstateSettlement {
         final int[] divisors = new int[MAX_PERSONS];
         final int[] weights = new int[MAX_PERSONS];
 
-        void trace(Estate estate, State state) {
-            findOpenLines(estate, state);
-            findHeirs(estate, state);
-            findWeights();
-        }
-
         // A parent stands before its children, so backwards the lines of all children come first.
-        private void findOpenLines(Estate estate, State state) {
+        void findOpenLines(Estate estate, State state) {
             notEmpty = 0;
             for (int i = 0; i < openLines.length; i++) {
                 openLines[i] = 0;
@@ -1213,7 +1208,7 @@ public final class EstateSettlement {
         }
 
         // The divisor of a person that is not reached is 0, and so are those of all below it.
-        private void findHeirs(Estate estate, State state) {
+        void findHeirs(Estate estate, State state) {
             heirs = 0;
             for (int person = 0; person < MAX_PERSONS; person++) {
                 divisors[person] = 0;
@@ -1234,7 +1229,7 @@ public final class EstateSettlement {
             return state.passesOn(parent) ? at(divisors, parent) : 0;
         }
 
-        private void findWeights() {
+        void findWeights() {
             int multiple = 1;
             for (int person = 0; person < MAX_PERSONS; person++) {
                 if (hasBit(heirs, person)) {
@@ -1340,8 +1335,12 @@ public final class EstateSettlement {
         }
 
         void settle(Estate estate, State state) {
-            inventory.settle(estate, state);
-            lines.trace(estate, state);
+            inventory.addUpAssets(estate, state);
+            inventory.payDebts(state);
+            inventory.payLegacies(estate, state);
+            lines.findOpenLines(estate, state);
+            lines.findHeirs(estate, state);
+            lines.findWeights();
             divideResidue(estate, state);
             portions.bring(estate, state);
             portions.divide(fund, lines);

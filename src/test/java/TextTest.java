@@ -9,6 +9,7 @@ public final class TextTest {
         tokens();
         optionalParts();
         names();
+        nothingStays();
         sizes();
         largestText();
         find();
@@ -145,6 +146,36 @@ public final class TextTest {
         Kit.same("a gift to one named dead", x.person(3, 5), 4);
         Kit.same("a legacy to one named spouse", x.legacy(0, 0), 4);
         Kit.same("find line", Kit.find(x, "line"), 5);
+        String[] alike = {"ab", "ba", "aaa", "a", "aa", "zzzzzzzz", "azzzzzzz", "zzzzzzz", "aaaaaaaa", "y", "z", "za"};
+        StringBuilder text = new StringBuilder();
+        for (String name : alike) {
+            text.append("person ").append(name).append(";");
+        }
+        EstateSettlement y = Kit.estate(text.toString());
+        for (int person = 0; person < alike.length; person++) {
+            Kit.same("find " + alike[person], Kit.find(y, alike[person]), person);
+        }
+        Kit.same("find yz", Kit.find(y, "yz"), NONE);
+    }
+
+    private static void nothingStays() {
+        EstateSettlement x = Kit.estate("person a dead;person s age 9 spouse;asset 100 charge 50;debt 1 9;gift a 5;"
+                + "legacy s 6;share 2 1;life 7;accrue others;");
+        x.refuse(1, true);
+        Kit.same("a shorter text", Kit.parse(x, "person b;person c;"), 0);
+        int[] due = {2, 0, 0, 0, 0, NONE, 1, 4, 0, 1};
+        for (int what = 0; what <= 9; what++) {
+            Kit.same("size " + what + " of the shorter text", x.size(what), due[what]);
+            Kit.same("account " + what + " of the shorter text", x.account(what), 0);
+        }
+        for (int person = 0; person < 2; person++) {
+            int[] usual = {NONE, 50, 0, 0, 0, 0};
+            for (int what = 0; what <= 5; what++) {
+                Kit.same("person " + person + " " + what, x.person(person, what), usual[what]);
+            }
+        }
+        Kit.same("a text without a fault after one with a fault", Kit.parse(x, "share 3 2;life 5;accrue x;"), 1);
+        Kit.same("each can occur again", Kit.parse(x, "person a spouse;share 1 0;life 0;accrue line;gift a 0;legacy a 0;debt 1 0;"), 0);
     }
 
     private static void sizes() {
