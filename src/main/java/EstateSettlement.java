@@ -3,7 +3,7 @@
  * with a share and a life interest, heirs by lines of descent with gifts brought into account.
  *
  * <p>The settlement is found anew after whatever alters the estate, so that questions only read it.
- * Everything that a call needs is made by the constructor; a call itself makes nothing.
+ * Everything that a call needs is made by the constructor; a call itself makes only what it throws.
  */
 public final class EstateSettlement {
 
@@ -254,7 +254,7 @@ public final class EstateSettlement {
     }
 
     private boolean isLeftOutWith(int person, int furtherGift) {
-        trial.portions.bring(estate, state);
+        trial.portions.bring(state);
         trial.portions.bringFurther(person, furtherGift);
         trial.portions.divide(settlement.fund, settlement.lines);
         return hasBit(trial.portions.leftOut, person);
@@ -1253,9 +1253,9 @@ public final class EstateSettlement {
         private final int[] weights = new int[MAX_PERSONS];
         private final int[] parts = new int[MAX_PERSONS];
 
-        void bring(Estate estate, State state) {
+        void bring(State state) {
             for (int person = 0; person < MAX_PERSONS; person++) {
-                gifts[person] = person < estate.personCount ? state.giftsTo(person) : 0;
+                gifts[person] = state.giftsTo(person);
             }
         }
 
@@ -1342,7 +1342,7 @@ public final class EstateSettlement {
             lines.findHeirs(estate, state);
             lines.findWeights();
             divideResidue(estate, state);
-            portions.bring(estate, state);
+            portions.bring(state);
             portions.divide(fund, lines);
         }
 
