@@ -6,6 +6,7 @@ final class Kit {
 
     private static int checks = 0;
     private static int wrong = 0;
+    private static String about = "";
 
     private Kit() {
     }
@@ -14,31 +15,76 @@ final class Kit {
         void run();
     }
 
+    interface NumberedCall {
+        void run(int number);
+    }
+
+    interface Question {
+        void ask(int index, int what);
+    }
+
+    interface Action {
+        void on(EstateSettlement x);
+    }
+
+    interface Source {
+        EstateSettlement make();
+    }
+
+    /** Names the promise, and the sentence of the document, that the checks behind it are of. */
+    static void about(String promise) {
+        about = promise + " | ";
+    }
+
     static void same(String what, long got, long due) {
-        checks++;
-        if (got != due) {
-            wrong++;
-            if (wrong <= 50) {
-                System.out.println(what + " answered " + got + ", due is " + due);
-            }
-        }
+        check(what, got == due, got, due);
     }
 
     static void yes(String what, boolean got) {
-        same(what, got ? 1 : 0, 1);
+        check(what, got, got, true);
     }
 
     static void no(String what, boolean got) {
-        same(what, got ? 1 : 0, 0);
+        check(what, !got, got, false);
     }
 
     /** Checks that the call throws an exception of just this class. */
     static void raises(String what, Class<?> due, Call call) {
-        checks++;
         Class<?> got = raisedBy(call);
-        if (got != due) {
+        check(what, got == due, got, due);
+    }
+
+    /** Checks that the call throws this exception for each of the numbers. */
+    static void raisesForEach(String what, Class<?> due, NumberedCall call, int... numbers) {
+        for (int number : numbers) {
+            raises(what + " with " + number, due, () -> call.run(number));
+        }
+    }
+
+    /** Checks that the call throws for -1, for a number as great as the count, and for what lies far out. */
+    static void raisesOutside(String what, Class<?> due, int count, NumberedCall call) {
+        raisesForEach(what, due, call, -1, count, Integer.MIN_VALUE, Integer.MAX_VALUE);
+    }
+
+    /** Checks what is asked of such a question: there are so many indexes and so many numbers for what. */
+    static void asksForIndexAndWhat(String name, int indexes, int whats, Question question) {
+        raisesOutside(name + " of an index", INDEX, indexes, index -> question.ask(index, 0));
+        raisesOutside(name + " of both: the index first", INDEX, indexes, index -> question.ask(index, whats));
+        raisesOutside(name + " of both: the index first", INDEX, indexes, index -> question.ask(index, -1));
+        if (indexes > 0) {
+            raisesOutside(name + " of what", ARGUMENT, whats, what -> question.ask(0, what));
+            raisesOutside(name + " of what at the last index", ARGUMENT, whats, what -> question.ask(indexes - 1, what));
+            same(name + " of the last ones", raisedBy(() -> question.ask(indexes - 1, whats - 1)) == null ? 1 : 0, 1);
+        }
+    }
+
+    private static void check(String what, boolean right, Object got, Object due) {
+        checks++;
+        if (!right) {
             wrong++;
-            System.out.println(what + " threw " + got + ", due is " + due);
+            if (wrong <= 50) {
+                System.out.println(about + what + " answered " + got + ", due is " + due);
+            }
         }
     }
 
@@ -83,6 +129,17 @@ final class Kit {
         return x;
     }
 
+    /** The parse error of this code is due at the first sign ^ of the text, which is no part of it. */
+    static void fails(int code, String marked) {
+        int position = marked.indexOf('^');
+        String text = marked.substring(0, position) + marked.substring(position + 1);
+        EstateSettlement x = new EstateSettlement();
+        same("code of " + marked, parse(x, text), code);
+        same("position of " + marked, x.errorPosition(), position);
+        same("persons after " + marked, x.size(0), 0);
+        same("assets after " + marked, x.size(1), 0);
+    }
+
     static int find(EstateSettlement x, String name) {
         type(x, name);
         return x.find();
@@ -121,7 +178,51 @@ final class Kit {
     }
 
     static void samePicture(String what, EstateSettlement x, String due) {
-        yes(what + " leaves the picture", pictureOf(x).equals(due));
+        check(what, pictureOf(x).equals(due), "another picture", "the same");
+    }
+
+    /**
+     * Checks that two objects hold the same, also where no question reaches: what the buffer holds (as
+     * far as find tells), what can be undone, and both slots. Neither object is of use afterwards.
+     */
+    static void sameInside(String what, EstateSettlement x, EstateSettlement y) {
+        samePicture(what + ": the picture", x, pictureOf(y));
+        same(what + ": find", x.find(), y.find());
+        same(what + ": the buffer's length", x.append(0, 0, 0, 0, 0), y.append(0, 0, 0, 0, 0));
+        int left = 0;
+        while (left != EstateSettlement.NONE) {
+            left = y.undo();
+            same(what + ": undo", x.undo(), left);
+            if (left != EstateSettlement.NONE) {
+                samePicture(what + ": the picture with " + left + " left to undo", x, pictureOf(y));
+            }
+        }
+        for (int n = 0; n < 2; n++) {
+            int slot = n;
+            Class<?> due = raisedBy(() -> y.restoreSnapshot(slot));
+            raises(what + ": slot " + slot, due, () -> x.restoreSnapshot(slot));
+            if (due == null) {
+                samePicture(what + ": the picture of slot " + slot, x, pictureOf(y));
+            }
+        }
+    }
+
+    /** Checks that the call throws, and that the object holds then what it would without the call. */
+    static void refuses(String what, Class<?> due, Source source, Action call) {
+        EstateSettlement x = source.make();
+        EstateSettlement y = source.make();
+        raises(what, due, () -> call.on(x));
+        same(what + ": errorPosition", x.errorPosition(), y.errorPosition());
+        sameInside(what, x, y);
+    }
+
+    /** Checks that after the call an object holds what it would without the call. */
+    static void leaves(String what, Source source, Action call) {
+        EstateSettlement x = source.make();
+        EstateSettlement y = source.make();
+        call.on(x);
+        same(what + ": errorPosition", x.errorPosition(), y.errorPosition());
+        sameInside(what, x, y);
     }
 
     static void finish() {

@@ -1,4 +1,3 @@
-import java.util.ArrayList;
 import java.util.List;
 
 /** Promises 29 to 31: undo and the snapshot slots. */
@@ -16,25 +15,34 @@ public final class UndoTest {
         Kit.finish();
     }
 
-    private static void everyChange() {
+    private static final List<Kit.Action> CHANGES = List.of(x -> x.refuse(1, true), x -> x.die(3), x -> x.setAge(0, 90),
+            x -> x.addGift(2, 5000), x -> x.addDebt(1, 300), x -> x.setValue(0, 800), x -> x.setAccrue(false),
+            x -> x.refuse(1, true));
+
+    private static EstateSettlement changed(int changes) {
         EstateSettlement x = Kit.estate(TEXT);
-        List<String> pictures = new ArrayList<>();
-        Kit.Call[] changes = {() -> x.refuse(1, true), () -> x.die(3), () -> x.setAge(0, 90), () -> x.addGift(2, 5000),
-            () -> x.addDebt(1, 300), () -> x.setValue(0, 800), () -> x.setAccrue(false), () -> x.refuse(1, true)};
-        for (Kit.Call change : changes) {
-            pictures.add(Kit.pictureOf(x));
-            change.run();
+        for (int change = 0; change < changes; change++) {
+            CHANGES.get(change).on(x);
         }
-        for (int left = changes.length - 1; left >= 0; left--) {
-            Kit.same("left to undo", x.undo(), left);
-            Kit.samePicture("undo of change " + left, x, pictures.get(left));
+        return x;
+    }
+
+    private static void everyChange() {
+        for (int left = CHANGES.size() - 1; left >= 0; left--) {
+            EstateSettlement x = changed(CHANGES.size());
+            for (int undone = CHANGES.size() - 1; undone >= left; undone--) {
+                Kit.same("left to undo", x.undo(), undone);
+            }
+            Kit.samePicture("undo of change " + left, x, Kit.pictureOf(changed(left)));
         }
-        Kit.same("nothing left to undo", x.undo(), NONE);
-        Kit.samePicture("undo of nothing", x, pictures.get(0));
-        x.addGift(1, 7);
-        Kit.same("a gift takes the place of an undone one", x.person(1, 5), 47);
-        Kit.same("undo it", x.undo(), 0);
-        Kit.samePicture("undo of the other gift", x, pictures.get(0));
+        EstateSettlement y = changed(1);
+        y.undo();
+        Kit.same("nothing left to undo", y.undo(), NONE);
+        Kit.samePicture("undo of nothing", y, Kit.pictureOf(changed(0)));
+        y.addGift(1, 7);
+        Kit.same("a gift takes the place of an undone one", y.person(1, 5), 47);
+        Kit.same("undo it", y.undo(), 0);
+        Kit.samePicture("undo of the other gift", y, Kit.pictureOf(changed(0)));
     }
 
     private static void tenChanges() {
@@ -82,18 +90,10 @@ public final class UndoTest {
         Kit.same("value", x.asset(0, 0), 6);
     }
 
-    private static void snapshots() {
+    /** Slot 0 holds what the text says, slot 1 what seven changes have made of it. */
+    private static EstateSettlement withSnapshots() {
         EstateSettlement x = Kit.estate(TEXT);
-        Kit.raises("saveSnapshot(2)", Kit.INDEX, () -> x.saveSnapshot(2));
-        Kit.raises("saveSnapshot(-1)", Kit.INDEX, () -> x.saveSnapshot(-1));
-        Kit.raises("restoreSnapshot(2)", Kit.INDEX, () -> x.restoreSnapshot(2));
-        Kit.raises("restoreSnapshot(-1)", Kit.INDEX, () -> x.restoreSnapshot(-1));
-        x.setValue(1, 7);
-        Kit.raises("an empty slot", Kit.STATE, () -> x.restoreSnapshot(0));
-        Kit.same("which leaves the history", x.undo(), 0);
-        String before = Kit.pictureOf(x);
         Kit.no("the first snapshot", x.saveSnapshot(0));
-        Kit.samePicture("saveSnapshot", x, before);
         x.refuse(1, true);
         x.die(2);
         x.setAge(0, 7);
@@ -101,8 +101,25 @@ public final class UndoTest {
         x.addDebt(4, 100);
         x.setValue(1, 9999);
         x.setAccrue(false);
-        String after = Kit.pictureOf(x);
         Kit.no("the other slot is still empty", x.saveSnapshot(1));
+        return x;
+    }
+
+    private static void snapshots() {
+        EstateSettlement y = Kit.estate(TEXT);
+        Kit.raises("saveSnapshot(2)", Kit.INDEX, () -> y.saveSnapshot(2));
+        Kit.raises("saveSnapshot(-1)", Kit.INDEX, () -> y.saveSnapshot(-1));
+        Kit.raises("restoreSnapshot(2)", Kit.INDEX, () -> y.restoreSnapshot(2));
+        Kit.raises("restoreSnapshot(-1)", Kit.INDEX, () -> y.restoreSnapshot(-1));
+        y.setValue(1, 7);
+        Kit.raises("an empty slot", Kit.STATE, () -> y.restoreSnapshot(0));
+        Kit.same("which leaves the history", y.undo(), 0);
+        String before = Kit.pictureOf(y);
+        y.saveSnapshot(0);
+        Kit.samePicture("saveSnapshot", y, before);
+
+        EstateSettlement x = withSnapshots();
+        String after = Kit.pictureOf(x);
         Kit.same("the residue then", x.restoreSnapshot(0), 1045 - 30 - 20);
         Kit.samePicture("restoreSnapshot", x, before);
         Kit.same("the history is cleared", x.undo(), NONE);
@@ -111,12 +128,14 @@ public final class UndoTest {
         Kit.samePicture("the slot stays stored", x, before);
         x.restoreSnapshot(1);
         Kit.samePicture("the other slot", x, after);
-        Kit.yes("in place of an earlier one", x.saveSnapshot(0));
-        x.undo();
-        x.setValue(1, 2);
-        x.restoreSnapshot(0);
-        Kit.samePicture("the later snapshot", x, after);
-        Kit.same("undo after restoring", x.undo(), NONE);
+
+        EstateSettlement z = withSnapshots();
+        Kit.yes("in place of an earlier one", z.saveSnapshot(0));
+        z.undo();
+        z.setValue(1, 2);
+        z.restoreSnapshot(0);
+        Kit.samePicture("the later snapshot", z, after);
+        Kit.same("undo after restoring", z.undo(), NONE);
     }
 
     private static void restoreOneOfTwo() {
