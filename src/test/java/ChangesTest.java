@@ -20,6 +20,7 @@ public final class ChangesTest {
     }
 
     private static void refuse() {
+        Kit.about("promise 22");
         String text = "person a;person b;person s spouse;asset 1000;";
         EstateSettlement x = Kit.estate(text);
         refused("refuse(3, true)", text, Kit.INDEX, y -> y.refuse(3, true));
@@ -37,6 +38,7 @@ public final class ChangesTest {
     }
 
     private static void die() {
+        Kit.about("promise 23");
         String text = "person a;person b under a;person c;person s spouse;asset 1000;legacy a 100;";
         EstateSettlement x = Kit.estate(text);
         refused("die(4)", text, Kit.INDEX, y -> y.die(4));
@@ -54,6 +56,7 @@ public final class ChangesTest {
     }
 
     private static void setAge() {
+        Kit.about("promise 24");
         String text = "person a;person s age 19 spouse;asset 1000;share 1 0;life 100;";
         EstateSettlement x = Kit.estate(text);
         refused("setAge(2, 5)", text, Kit.INDEX, y -> y.setAge(2, 5));
@@ -71,6 +74,7 @@ public final class ChangesTest {
     }
 
     private static void addGift() {
+        Kit.about("promise 25");
         String text = "person a;person b;person c dead;asset 100;gift a 10;";
         EstateSettlement x = Kit.estate(text);
         refused("addGift(3, 5)", text, Kit.INDEX, y -> y.addGift(3, 5));
@@ -99,6 +103,7 @@ public final class ChangesTest {
     }
 
     private static void addDebt() {
+        Kit.about("promise 26");
         String text = "person a;asset 100;debt 3 50;";
         EstateSettlement x = Kit.estate(text);
         refused("addDebt(0, 5)", text, Kit.ARGUMENT, y -> y.addDebt(0, 5));
@@ -127,6 +132,7 @@ public final class ChangesTest {
     }
 
     private static void setValue() {
+        Kit.about("promise 27");
         String text = "person a;asset 100 charge 10;asset 50;";
         EstateSettlement x = Kit.estate(text);
         refused("setValue(2, 5)", text, Kit.INDEX, y -> y.setValue(2, 5));
@@ -143,6 +149,7 @@ public final class ChangesTest {
     }
 
     private static void setAccrue() {
+        Kit.about("promise 28");
         EstateSettlement x = Kit.estate("person a;person b under a;person c;asset 100;");
         Kit.same("nobody refuses", x.setAccrue(false), 0b101);
         Kit.same("others", x.size(9), 0);

@@ -108,6 +108,12 @@ public final class EdgesOfAnswersTest {
         y.refuse(4, true);
         y.die(5);
         Kit.same("dead ones and who refuse are children too", y.person(1, 4), 10);
+        EstateSettlement few = Kit.estate(CHAIN);
+        for (int persons = 1; persons <= 3; persons++) {
+            Kit.same("a shorter text", Kit.parse(few, "person a;person b;person c under a;".substring(0, new int[] {9, 18, 35}[persons - 1])), 0);
+            Kit.same("children of the first of " + persons, few.person(0, 4), persons / 3);
+            Kit.same("children of the last of " + persons, few.person(persons - 1, 4), 0);
+        }
         Kit.about("promise 7: 2 whether it is dead, 3 whether it refuses (1 or 0)");
         same("dead", new int[] {0, 0, 0, 0, 0, 1, 0, 0, 0, 0, 0, 1}, person -> y.person(person, 2));
         same("refuses", new int[] {0, 0, 0, 0, 1, 0, 0, 0, 0, 0, 0, 0}, person -> y.person(person, 3));

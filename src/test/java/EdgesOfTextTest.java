@@ -25,6 +25,7 @@ public final class EdgesOfTextTest {
         rangeOfPart();
         defaults();
         grammar();
+        wordsOfTheGrammar();
         personParts();
         numbersOfEachSort();
         onlyOnce();
@@ -154,7 +155,8 @@ public final class EdgesOfTextTest {
 
     /** An estate with a history, a slot in use, an earlier parse error, and a name in the buffer. */
     private static EstateSettlement usedEstate() {
-        EstateSettlement x = Kit.estate("person a;person s spouse;asset 900;debt 1 20;gift a 5;legacy s 7;");
+        EstateSettlement x = Kit.estate("person a;person s age 7 spouse;asset 900 charge 2;debt 1 20;gift a 5;legacy s 7;share 9 2;"
+                + "life 8;accrue others;");
         Kit.same("an error", Kit.parse(x, "life 1; x;"), 1);
         x.refuse(0, true);
         x.saveSnapshot(1);
@@ -175,22 +177,27 @@ public final class EdgesOfTextTest {
     }
 
     private static void parseSuccessReplaces() {
-        Kit.about("promise 3: On success the described estate replaces the current one");
-        EstateSettlement x = usedEstate();
-        x.find();
-        x.setAccrue(false);
-        x.die(1);
-        x.setAge(0, 7);
-        Kit.same("the empty text", Kit.parse(x, ""), 0);
-        Kit.sameInside("after the empty text", x, new EstateSettlement());
-        String again = "person c;person a;person s;asset 1;debt 5 1;gift a 1;legacy a 1;";
-        EstateSettlement y = usedEstate();
-        y.find();
-        y.setAccrue(false);
-        y.die(1);
-        y.setAge(0, 7);
-        Kit.same("another text", Kit.parse(y, again), 0);
-        Kit.sameInside("A successful parse clears the undo history and empties both slots", y, Kit.estate(again));
+        Kit.about("promise 3: On success the described estate replaces the current one; "
+                + "A successful parse clears the undo history and empties both slots");
+        String[] texts = {"", "person b;", "person c;person a;person s;asset 1;debt 5 1;gift a 1;legacy a 1;",
+            "person s spouse;person a;share 5 1;life 3;accrue line;asset 60;", "life 0;", "accrue others;share 1 0;"};
+        for (String text : texts) {
+            EstateSettlement x = usedEstate();
+            x.find();
+            x.saveSnapshot(0);
+            x.die(1);
+            x.setAge(0, 7);
+            Kit.same(text, Kit.parse(x, text), 0);
+            Kit.sameInside("after " + text, x, Kit.estate(text));
+            EstateSettlement y = Kit.estate(text);
+            Kit.same(text + " once more", Kit.parse(y, text), 0);
+            Kit.sameInside("after " + text + " twice", y, Kit.estate(text));
+            EstateSettlement z = new EstateSettlement();
+            Kit.same("a text with an error at its end", Kit.parse(z, "person b dead;person t age 3 spouse;asset 4 charge 5;debt 2 3;"
+                    + "gift b 8;legacy t 9;share 9 8;life 7;accrue others"), 1);
+            Kit.same(text + " behind it", Kit.parse(z, text), 0);
+            Kit.sameInside("after an error and " + text, z, Kit.estate(text));
+        }
     }
 
     // ---- promise 3: TEXT
@@ -437,6 +444,33 @@ public final class EdgesOfTextTest {
             } else {
                 Kit.fails(1, place.text + "^");
                 Kit.fails(1, place.text + "\n ^");
+            }
+        }
+    }
+
+    /** Each word of the grammar with a letter changed, less or more is no such word, but may be a name. */
+    private static void wordsOfTheGrammar() {
+        Kit.about("promise 3: 1: a token that the grammar does not allow at this place: a word that is nearly the one that is");
+        for (Place place : PLACES) {
+            for (String word : TOKENS) {
+                if (word.length() > 1 && word.matches("[a-z]{1,8}") && place.allowed.contains(word)) {
+                    for (int at = 0; at < word.length(); at++) {
+                        char other = word.charAt(at) == 'q' ? 'v' : 'q';
+                        Kit.fails(1, place.text + "^" + word.substring(0, at) + other + word.substring(at + 1) + FAR);
+                    }
+                    Kit.fails(1, place.text + "^" + word.substring(1) + FAR);
+                    Kit.fails(1, place.text + "^" + word.substring(0, word.length() - 1) + FAR);
+                    Kit.fails(1, place.text + "^" + word + "s" + FAR);
+                }
+            }
+        }
+        for (String word : TOKENS) {
+            if (word.matches("[a-z]{1,8}")) {
+                EstateSettlement x = Kit.estate("person " + word + ";person b under " + word + ";gift " + word + " 5;legacy "
+                        + word + " 6;person c under " + word + " age 7 dead;");
+                Kit.same("children of one named " + word, x.person(0, 4), 2);
+                Kit.same("find " + word, Kit.find(x, word), 0);
+                Kit.same("a spouse named " + word, Kit.estate("person " + word + " spouse;legacy " + word + " 1;").size(5), 0);
             }
         }
     }

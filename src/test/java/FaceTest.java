@@ -40,6 +40,7 @@ public final class FaceTest {
     };
 
     public static void main(String[] args) {
+        Kit.about("promises 1 to 31: the public face");
         TreeSet<String> due = new TreeSet<>(java.util.List.of(METHODS));
         TreeSet<String> publicNames = new TreeSet<>();
         for (Method method : EstateSettlement.class.getDeclaredMethods()) {

@@ -19,6 +19,7 @@ public final class HeirsTest {
     }
 
     private static void lines() {
+        Kit.about("promises 13 and 15 to 17");
         EstateSettlement x = Kit.estate("person s spouse;person a;person b under a;person c dead;person d under c;"
                 + "person e under c dead;person f under e;person g under e;person h under f;asset 1200;share 4 0;");
         Kit.same("heirs", x.heirs(), 1 << 1 | 1 << 4 | 1 << 6 | 1 << 7);
@@ -44,6 +45,7 @@ public final class HeirsTest {
     }
 
     private static void accrual() {
+        Kit.about("promises 13 and 15");
         EstateSettlement x = Kit.estate("person a;person b under a;person c under a;person d;asset 900;");
         x.refuse(0, true);
         Kit.same("accrue line", x.heirs(), 0b1110);
@@ -59,6 +61,7 @@ public final class HeirsTest {
     }
 
     private static void deadWhoRefuses() {
+        Kit.about("promise 13");
         EstateSettlement x = Kit.estate("person a dead;person b under a;person c;asset 100;accrue others;");
         x.refuse(0, true);
         Kit.same("the dead pass on even if they refuse", x.heirs(), 0b110);
@@ -67,6 +70,7 @@ public final class HeirsTest {
     }
 
     private static void weights() {
+        Kit.about("promise 16");
         // Divisors 4, 4, 6, 6, 6 below two lines; M is 12.
         EstateSettlement x = Kit.estate("person a dead;person b dead;person c under a;person d under b;person e under b;"
                 + "person f under a;person g under b;asset 1200;");
@@ -89,6 +93,7 @@ public final class HeirsTest {
     }
 
     private static void emptyLines() {
+        Kit.about("promises 13 to 16");
         EstateSettlement x = Kit.estate("person a dead;person b dead;person c under b dead;person d;asset 10;");
         Kit.same("heirs", x.heirs(), 0b1000);
         Kit.same("empty lines do not divide", x.step(3, 0), 1);
@@ -99,6 +104,7 @@ public final class HeirsTest {
     }
 
     private static void gifts() {
+        Kit.about("promises 14 and 16");
         // Fund 900, gifts 300 and 0 and 60: pot 1260, due 420 each.
         EstateSettlement x = Kit.estate("person a;person b;person c;gift a 100;gift c 60;gift a 200;asset 900;");
         Kit.same("nobody is left out", x.leftOut(), 0);
@@ -125,6 +131,7 @@ public final class HeirsTest {
     }
 
     private static void leftOutOneByOne() {
+        Kit.about("promise 14");
         // Pot 100 + 500 + 90 + 0: due 230, a is left out; pot 190: due 95, b stays.
         EstateSettlement x = Kit.estate("person a;person b;person c;gift a 500;gift b 90;asset 100;");
         Kit.same("only a is left out", x.leftOut(), 1);
@@ -143,6 +150,7 @@ public final class HeirsTest {
     }
 
     private static void centsLeftOver() {
+        Kit.about("promise 16");
         EstateSettlement x = Kit.estate("person a;person b;person c;asset 101;");
         int[][] due = {{33, 1, 34}, {33, 1, 34}, {33, 0, 33}};
         for (int person = 0; person < 3; person++) {
@@ -164,6 +172,7 @@ public final class HeirsTest {
     }
 
     private static void giftsThatDoNotCount() {
+        Kit.about("promises 14 and 16");
         EstateSettlement x = Kit.estate("person s spouse;person a;person b under a;person c dead;person d;"
                 + "gift s 500;gift b 500;gift c 500;gift d 10;asset 100;share 2 1;");
         Kit.same("the pot", x.step(1, 3), 60);
@@ -173,6 +182,7 @@ public final class HeirsTest {
     }
 
     private static void fundOfNothing() {
+        Kit.about("promises 14 and 16");
         EstateSettlement x = Kit.estate("person a;person b;gift a 1;gift b 2;");
         Kit.same("b is left out", x.leftOut(), 0b10);
         Kit.same("a's pot is its gift", x.step(0, 3), 1);
@@ -185,6 +195,7 @@ public final class HeirsTest {
     }
 
     private static void steps() {
+        Kit.about("promise 16");
         EstateSettlement x = Kit.estate("person a;person s spouse;asset 10;");
         for (int what = 0; what <= 6; what++) {
             Kit.same("step " + what + " of the spouse", x.step(1, what), NONE);
@@ -198,6 +209,7 @@ public final class HeirsTest {
     }
 
     private static void given() {
+        Kit.about("promises 17 and 18");
         EstateSettlement x = Kit.estate("person s spouse;person a;person b under a;asset 1000;legacy s 10;legacy s 5;"
                 + "legacy b 20;legacy a 1;life 10;");
         // Residue 964: share 241, rest 723, burdened 72, worth 36, fund 687.

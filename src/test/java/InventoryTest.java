@@ -14,6 +14,7 @@ public final class InventoryTest {
     }
 
     private static void assets() {
+        Kit.about("promise 8");
         EstateSettlement x = Kit.estate("asset 99 charge 33;asset 101 charge 1;asset 9999999 charge 99;asset 1 charge 99;");
         int[][] due = {{99, 67}, {101, 100}, {9999999, 100000}, {1, 1}};
         for (int asset = 0; asset < due.length; asset++) {
@@ -29,6 +30,7 @@ public final class InventoryTest {
     }
 
     private static void debtsByRank() {
+        Kit.about("promises 9 and 11");
         EstateSettlement x = Kit.estate("asset 100;debt 3 50;debt 1 30;debt 5 10;debt 2 20;debt 4 0;");
         int[][] due = {{3, 50, 50}, {1, 30, 30}, {5, 10, 0}, {2, 20, 20}, {4, 0, 0}};
         for (int debt = 0; debt < due.length; debt++) {
@@ -46,6 +48,7 @@ public final class InventoryTest {
     }
 
     private static void debtsSplit() {
+        Kit.about("promise 9");
         // 20 of rank 2 are left for 0 + 7 + 30 + 10 = 47: 2, 12, 4 and two cents for the first ones.
         EstateSettlement x = Kit.estate("asset 30;debt 2 0;debt 2 7;debt 1 10;debt 2 30;debt 2 10;debt 3 5;");
         int[] due = {0, 3, 10, 13, 4, 0};
@@ -64,6 +67,7 @@ public final class InventoryTest {
     }
 
     private static void legacies() {
+        Kit.about("promise 10");
         EstateSettlement x = Kit.estate("person s spouse;person a;person b dead;person c under b;asset 1000;"
                 + "legacy s 100;legacy b 200;legacy c 300;legacy a 0;legacy c 50;");
         int[][] due = {{0, 100, 100, 0}, {2, 200, 0, 1}, {3, 300, 300, 0}, {1, 0, 0, 0}, {3, 50, 50, 0}};
@@ -88,6 +92,7 @@ public final class InventoryTest {
     }
 
     private static void legaciesAbate() {
+        Kit.about("promise 10");
         // 90 are left for 50 + 70 + 0 + 80 = 200: 22, 31, 36 and a cent; b's legacy does not count.
         EstateSettlement x = Kit.estate("person a;person b dead;asset 100;debt 5 10;"
                 + "legacy b 60;legacy a 0;legacy a 50;legacy a 70;legacy a 80;");
@@ -101,6 +106,7 @@ public final class InventoryTest {
     }
 
     private static void accounts() {
+        Kit.about("promise 11");
         // Residue 1001: share 1001 * 2 / 3 = 667, rest 334, burdened 334 * 35 / 100 = 116, worth 116 * 40 / 100 = 46.
         EstateSettlement x = Kit.estate("person a;person s age 69 spouse;asset 1111;debt 1 60;legacy a 50;share 3 2;life 35;");
         int[] due = {1111, 60, 0, 50, 1001, 667, 116, 46, 288, 0};
@@ -128,6 +134,7 @@ public final class InventoryTest {
     }
 
     private static void accountsWithoutHeirs() {
+        Kit.about("promise 11");
         EstateSettlement x = Kit.estate("person a dead;person s spouse;asset 500;debt 1 100;life 50;legacy s 30;");
         int[] due = {500, 100, 0, 30, 370, 370, 0, 0, 0, 0};
         for (int what = 0; what <= 9; what++) {
@@ -144,6 +151,7 @@ public final class InventoryTest {
     }
 
     private static void factors() {
+        Kit.about("promise 12");
         EstateSettlement x = new EstateSettlement();
         for (int age = 0; age <= 120; age++) {
             int due = 90;
@@ -160,6 +168,7 @@ public final class InventoryTest {
     }
 
     private static void largestAmounts() {
+        Kit.about("promises 9 and 11");
         StringBuilder text = new StringBuilder("person a;person s age 0 spouse;share 99 98;life 100;");
         for (int i = 0; i < 8; i++) {
             text.append("asset 9999999;");

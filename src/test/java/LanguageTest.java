@@ -14,6 +14,7 @@ public final class LanguageTest {
     };
 
     public static void main(String[] args) throws Exception {
+        Kit.about("promises 1 to 31: LANGUAGE.md");
         String source = Files.readString(Path.of("src/main/java/EstateSettlement.java"));
         String code = source.replaceAll("(?s)/\\*.*?\\*/", "").replaceAll("//[^\n]*", "");
         for (String words : RULED_OUT) {

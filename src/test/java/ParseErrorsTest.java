@@ -13,6 +13,7 @@ public final class ParseErrorsTest {
     }
 
     private static void invalidTokens() {
+        Kit.about("promises 3 and 4: code 1");
         Kit.fails(1, "person ^abcdefghi;");
         Kit.fails(1, "^personperson a;");
         Kit.fails(1, "life ^00000005;");
@@ -36,6 +37,7 @@ public final class ParseErrorsTest {
     }
 
     private static void notAllowed() {
+        Kit.about("promises 3 and 4: code 1");
         Kit.fails(1, "^;");
         Kit.fails(1, "life 1;^;");
         Kit.fails(1, "^5;");
@@ -99,6 +101,7 @@ public final class ParseErrorsTest {
     }
 
     private static void tooEarly() {
+        Kit.about("promises 3 and 4: code 1");
         Kit.fails(1, "person^");
         Kit.fails(1, "person ^");
         Kit.fails(1, "person a^");
@@ -132,6 +135,7 @@ public final class ParseErrorsTest {
     }
 
     private static void twice() {
+        Kit.about("promises 3 and 4: code 2");
         Kit.fails(2, "person a;person ^a;");
         Kit.fails(2, "person a;person b;person ^a under b;");
         Kit.fails(2, "person s spouse;person ^s;");
@@ -147,6 +151,7 @@ public final class ParseErrorsTest {
     }
 
     private static void outOfRange() {
+        Kit.about("promises 3 and 4: code 3");
         Kit.fails(3, "person a age ^121;");
         Kit.fails(3, "person a age ^9999999;");
         Kit.fails(3, "asset 5 charge ^101;");
@@ -161,6 +166,7 @@ public final class ParseErrorsTest {
     }
 
     private static void noPerson() {
+        Kit.about("promises 3 and 4: code 4");
         Kit.fails(4, "gift ^a 5;");
         Kit.fails(4, "gift ^a 5;person a;");
         Kit.fails(4, "legacy ^a 5;");
@@ -175,6 +181,7 @@ public final class ParseErrorsTest {
     }
 
     private static void tooMany() {
+        Kit.about("promises 3 and 4: code 5");
         Kit.fails(5, "person a;person b;person c;person d;person e;person f;person g;person h;person i;"
                 + "person j;person k;person l;^person a;");
         Kit.fails(5, "asset 1;asset 1;asset 1;asset 1;asset 1;asset 1;asset 1;asset 1;^asset x;");
@@ -185,6 +192,7 @@ public final class ParseErrorsTest {
     }
 
     private static void firstError() {
+        Kit.about("promises 3 and 4: the smallest position");
         Kit.fails(1, "life 1 ^x;life 101;");
         Kit.fails(3, "life ^101;LIFE");
         Kit.fails(4, "gift ^a 12345678;");

@@ -19,6 +19,7 @@ public final class RandomRunsTest {
     }
 
     public static void main(String[] args) {
+        Kit.about("promises 1 to 31 against the model");
         for (int seed = 0; seed < RUNS; seed++) {
             new RandomRunsTest(seed).run();
         }

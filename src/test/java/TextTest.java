@@ -19,6 +19,7 @@ public final class TextTest {
     }
 
     private static void newObject() {
+        Kit.about("promise 1");
         EstateSettlement x = new EstateSettlement();
         int[] sizes = {0, 0, 0, 0, 0, NONE, 1, 4, 0, 1};
         for (int what = 0; what <= 9; what++) {
@@ -43,6 +44,7 @@ public final class TextTest {
     }
 
     private static void append() {
+        Kit.about("promise 2");
         EstateSettlement x = new EstateSettlement();
         // "life" " 7; " and spaces: the most significant byte comes first.
         Kit.same("append", x.append(0x6c696665, 0x20373b20, 0x20202020, 0x20202020, 0x20202020), 20);
@@ -61,6 +63,7 @@ public final class TextTest {
     }
 
     private static void parse() {
+        Kit.about("promises 3 and 4");
         EstateSettlement x = Kit.estate("person a;life 5;");
         Kit.raises("the buffer is empty after a success", Kit.ARGUMENT, () -> x.parse(1));
         Kit.type(x, "life 6;");
@@ -104,6 +107,7 @@ public final class TextTest {
     }
 
     private static void tokens() {
+        Kit.about("promise 3");
         EstateSettlement x = Kit.estate("\n person\n\na age\n20;asset 5charge 0000007 ;debt 1 2;gift a 0000003;life07;\n");
         Kit.same("age", x.person(0, 1), 20);
         Kit.same("asset", x.asset(0, 0), 5);
@@ -119,6 +123,7 @@ public final class TextTest {
     }
 
     private static void optionalParts() {
+        Kit.about("promises 3 and 7");
         EstateSettlement x = Kit.estate("person a;person b under a;person c under b age 7;person d under c age 8 dead;"
                 + "person e under d dead;person f age 0;person g age 120 dead;person h dead;person i age 9 spouse;");
         int[] parents = {NONE, 0, 1, 2, 3, NONE, NONE, NONE, NONE};
@@ -140,6 +145,7 @@ public final class TextTest {
     }
 
     private static void names() {
+        Kit.about("promises 3 and 6");
         EstateSettlement x = Kit.estate("person person;person under;person age under under;person dead dead;"
                 + "person spouse spouse;person line age 3;gift dead 4;legacy spouse 5;");
         Kit.same("a person named age is under one named under", x.person(2, 0), 1);
@@ -160,6 +166,7 @@ public final class TextTest {
     }
 
     private static void nothingStays() {
+        Kit.about("promise 3");
         EstateSettlement x = Kit.estate("person a dead;person s age 9 spouse;asset 100 charge 50;debt 1 9;gift a 5;"
                 + "legacy s 6;share 2 1;life 7;accrue others;");
         x.refuse(1, true);
@@ -180,6 +187,7 @@ public final class TextTest {
     }
 
     private static void sizes() {
+        Kit.about("promise 5");
         EstateSettlement x = Kit.estate("person a;person b spouse;person c;asset 1;asset 2;asset 3;asset 4;debt 1 1;"
                 + "debt 5 2;gift a 1;legacy b 1;legacy a 1;legacy b 3;legacy c 1;legacy c 2;share 99 98;life 100;accrue others;");
         int[] due = {3, 4, 2, 1, 5, 1, 98, 99, 100, 0};
@@ -196,6 +204,7 @@ public final class TextTest {
     }
 
     private static void largestText() {
+        Kit.about("promise 3");
         StringBuilder text = new StringBuilder();
         for (char name = 'a'; name <= 'l'; name++) {
             text.append("person ").append(name).append(';');
@@ -214,6 +223,7 @@ public final class TextTest {
     }
 
     private static void find() {
+        Kit.about("promise 6");
         EstateSettlement x = Kit.estate("person ann;person an;person abcdefgh;");
         Kit.same("find ann", Kit.find(x, "ann"), 0);
         Kit.same("find an", Kit.find(x, "an"), 1);
@@ -243,6 +253,7 @@ public final class TextTest {
     }
 
     private static void person() {
+        Kit.about("promise 7");
         EstateSettlement x = Kit.estate("person s spouse age 61;".replace("spouse age 61", "age 61 spouse")
                 + "person a;person b under a;person c under a dead;person d under b;gift a 5;gift d 7;gift a 9999999;gift s 1;");
         int[][] due = {{NONE, 61, 0, 0, 0, 1}, {NONE, 50, 0, 0, 2, 10000004}, {1, 50, 0, 0, 1, 0},
@@ -264,6 +275,7 @@ public final class TextTest {
 
     /** The example of README.md. */
     private static void readme() {
+        Kit.about("promises 2, 3, 11, 17 and 22");
         EstateSettlement x = new EstateSettlement();
         x.append(0x70657273, 0x6f6e2061, 0x3b706572, 0x736f6e20, 0x623b6173);
         x.append(0x73657420, 0x31303030, 0x3b202020, 0x20202020, 0x20202020);

@@ -28,6 +28,7 @@ public final class UndoTest {
     }
 
     private static void everyChange() {
+        Kit.about("promise 29");
         for (int left = CHANGES.size() - 1; left >= 0; left--) {
             EstateSettlement x = changed(CHANGES.size());
             for (int undone = CHANGES.size() - 1; undone >= left; undone--) {
@@ -46,6 +47,7 @@ public final class UndoTest {
     }
 
     private static void tenChanges() {
+        Kit.about("promise 29");
         EstateSettlement x = Kit.estate(TEXT);
         for (int value = 1; value <= 25; value++) {
             x.setValue(0, value);
@@ -73,6 +75,7 @@ public final class UndoTest {
     }
 
     private static void whatIsNoChange() {
+        Kit.about("promise 29");
         EstateSettlement x = Kit.estate(TEXT);
         x.setValue(0, 5);
         x.setValue(0, 6);
@@ -106,6 +109,7 @@ public final class UndoTest {
     }
 
     private static void snapshots() {
+        Kit.about("promises 30 and 31");
         EstateSettlement y = Kit.estate(TEXT);
         Kit.raises("saveSnapshot(2)", Kit.INDEX, () -> y.saveSnapshot(2));
         Kit.raises("saveSnapshot(-1)", Kit.INDEX, () -> y.saveSnapshot(-1));
@@ -139,6 +143,7 @@ public final class UndoTest {
     }
 
     private static void restoreOneOfTwo() {
+        Kit.about("promise 31");
         EstateSettlement x = Kit.estate(TEXT);
         x.saveSnapshot(1);
         Kit.raises("slot 0 is empty", Kit.STATE, () -> x.restoreSnapshot(0));

@@ -12,6 +12,7 @@ public final class WhatIfTest {
     }
 
     private static void givenIf() {
+        Kit.about("promise 19");
         EstateSettlement x = Kit.estate("person s spouse;person a;person b under a;person c;asset 1000;legacy c 100;share 2 1;");
         x.setAge(0, 30);
         String before = Kit.pictureOf(x);
@@ -35,6 +36,7 @@ public final class WhatIfTest {
     }
 
     private static void helper() {
+        Kit.about("promise 20");
         EstateSettlement x = Kit.estate("person a;person b;person c;person d under a;person e dead;person f under e;asset 1200;");
         String before = Kit.pictureOf(x);
         Kit.same("b and c and f help a alike: the first one", x.helper(0), 1);
@@ -57,6 +59,7 @@ public final class WhatIfTest {
     }
 
     private static void tooMuch() {
+        Kit.about("promise 21");
         EstateSettlement x = Kit.estate("person a;person b;person c under b;asset 100;gift a 30;");
         String before = Kit.pictureOf(x);
         Kit.same("a", x.tooMuch(0), 71);
@@ -88,6 +91,7 @@ public final class WhatIfTest {
 
     /** The answer is found by trying each amount in turn as a gift of the text. */
     private static void tooMuchStepByStep() {
+        Kit.about("promise 21");
         String[] persons = {
             "person a;person b;person c;",
             "person d dead;person a under d;person b;person c under d;",
