@@ -14,7 +14,6 @@ public final class TextTest {
         largestText();
         find();
         person();
-        readme();
         Kit.finish();
     }
 
@@ -271,18 +270,5 @@ public final class TextTest {
         Kit.raises("person(5, 6): the person first", Kit.INDEX, () -> x.person(5, 6));
         Kit.raises("person(4, 6)", Kit.ARGUMENT, () -> x.person(4, 6));
         Kit.raises("person(4, -1)", Kit.ARGUMENT, () -> x.person(4, -1));
-    }
-
-    /** The example of README.md. */
-    private static void readme() {
-        Kit.about("promises 2, 3, 11, 17 and 22");
-        EstateSettlement x = new EstateSettlement();
-        x.append(0x70657273, 0x6f6e2061, 0x3b706572, 0x736f6e20, 0x623b6173);
-        x.append(0x73657420, 0x31303030, 0x3b202020, 0x20202020, 0x20202020);
-        Kit.same("README: parse", x.parse(29), 0);
-        Kit.same("README: given", x.given(0), 500);
-        Kit.no("README: refuse", x.refuse(1, true));
-        Kit.same("README: given then", x.given(0), 1000);
-        Kit.same("README: residue", x.account(4), 1000);
     }
 }
